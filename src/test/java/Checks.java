@@ -1,3 +1,4 @@
+import java.math.BigDecimal;
 import java.util.NoSuchElementException;
 
 /** What the tests share: calls with the answer that is due, and a count of the wrong ones. */
@@ -6,10 +7,27 @@ final class Checks {
 
     private int wrong = 0;
     private int done = 0;
+    private String sentence = "";
+    private int doneBefore = 0;
 
     /** A call of the face; it answers a long. */
     interface Call {
         long answer();
+    }
+
+    /** The document's words that the answers looked at from here on are due by. */
+    void sentence(String words) {
+        endSentence();
+        sentence = words;
+    }
+
+    /** A sentence that no answer was looked at for is not tested. */
+    private void endSentence() {
+        if (!sentence.isEmpty() && done == doneBefore) {
+            wrong++;
+            System.out.println("no answer looked at for: " + sentence);
+        }
+        doneBefore = done;
     }
 
     void due(String call, long want, Call got) {
@@ -33,11 +51,23 @@ final class Checks {
         done++;
         if (!want.equals(got)) {
             wrong++;
-            System.out.println(what + " answered " + got + ", due is " + want);
+            String by = sentence.isEmpty() ? "" : " by: " + sentence;
+            System.out.println(what + " answered " + got + ", due is " + want + by);
+        }
+    }
+
+    /** TEXT is this, and ends there, by letter and by the length that add answers. */
+    void dueText(String when, String want, DoubleText x) {
+        same("text " + when, want, textOf(x));
+        if (want.length() < 400) {
+            due("add " + when, want.length() + 1, () -> x.add('!'));
+        } else {
+            dueRefused("add " + when, () -> x.add('!'));
         }
     }
 
     void finish() {
+        endSentence();
         System.out.println(done + " answers looked at, " + wrong + " wrong");
         if (wrong != 0 || done == 0) {
             System.exit(1);
@@ -56,6 +86,19 @@ final class Checks {
     static DoubleText holding(String text) {
         DoubleText x = new DoubleText();
         append(x, text);
+        return x;
+    }
+
+    /** As long as a print can be: 341 bytes. */
+    static String longestPrint() {
+        return new BigDecimal(-Double.MAX_VALUE).toPlainString() + "." + "0".repeat(30);
+    }
+
+    /** The longest print and the text behind it, in few calls: so a full text can be told letter by letter. */
+    static DoubleText longHolding(String behind) {
+        DoubleText x = new DoubleText();
+        x.print(Double.doubleToRawLongBits(-Double.MAX_VALUE), 30);
+        append(x, behind);
         return x;
     }
 
