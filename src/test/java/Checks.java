@@ -74,7 +74,7 @@ final class Checks {
         }
     }
 
-    private static String outcome(Call call) {
+    static String outcome(Call call) {
         try {
             return Long.toString(call.answer());
         } catch (RuntimeException e) {
